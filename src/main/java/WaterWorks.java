@@ -16,7 +16,7 @@ public final class WaterWorks {
     private static final int[] RIGHT_ABOVE = {NONE, 0, 1, 1, 0, 4, 4, 4, 0, 8, 8, 8, 8, 8, 0, 14};
 
     private static final int FUSE = 0, BULKHEAD = 1, LIMIT = 2, DEADLINE = 3, RETRY = 4, HEDGE = 5;
-    private static final int FALLBACK = 6, MEMORY = 7, JOIN = 8, TRANSLATOR = 9, LAST_SORT = 9;
+    private static final int FALLBACK = 6, MEMORY = 7, JOIN = 8, TRANSLATOR = 9;
     /** What stands in place of a sort for a CALL behind the last GUARD. */
     private static final int TRY = 10;
     /** The bounds of a GUARD's numbers, by its sort; the lowest c and the lowest KIND that it NAMES are 0. */
@@ -93,7 +93,7 @@ public final class WaterWorks {
         if (sort == FALLBACK && a == 1 && stationAt(b) == null) {
             return NONE;
         }
-        if (!within(sort, FUSE, LAST_SORT) || !fitsSort(sort, a, b, c, named)) {
+        if (!fitsSort(sort, a, b, c, named)) {
             return RANGE;
         }
         if (guards.size() >= MOST_GUARDS) {
@@ -232,7 +232,7 @@ public final class WaterWorks {
         if (lacksWatched(sort, x)) {
             return NONE;
         }
-        if (!within(sort, ALARM_FUSE, ALARM_SLOW) || !fitsAlarm(sort, x, y)) {
+        if (!fitsAlarm(sort, x, y)) {
             return RANGE;
         }
         if (alarms.size() >= MOST_ALARMS) {
@@ -256,7 +256,8 @@ public final class WaterWorks {
             case ALARM_FUSE: return y == 0;
             case ALARM_LEVEL: return within(y, 0, MOST_LITRES);
             case ALARM_WAITING: return within(y, 1, 10);
-            default: return x == 0 && within(y, 0, MOST_LITRES);
+            case ALARM_SLOW: return x == 0 && within(y, 0, MOST_LITRES);
+            default: return false;
         }
     }
 
