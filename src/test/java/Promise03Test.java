@@ -177,6 +177,17 @@ public final class Promise03Test extends Told {
             due(5, "level", 1);
             due(0, "count", 8);
         }
+        sentence("the STATION of the TRY: that of a FALLBACK, not that of its ORDER");
+        make("station", 5, 9, 1);
+        make("station", 5, 9, 1);
+        make("guard", FALLBACK, 1, 1, 0, ANY);
+        tower(0);
+        make("fault", 0, TAKE, 1, 1, LINE);
+        make("fault", 0, TAKE, 2, 2, SILENT);
+        make("fault", 1, TAKE, 2, 2, NOISE);
+        make("order", 0, 0, TAKE, 1, 0);
+        due(1, "second", 2);
+        all("failure", 1, NOISE, 2, NONE, 1, 0, NONE);
         sentence("a FAULT is ahead of what its ACT does: TAKE too much is not DRY");
         make("station", 5, 9, 1);
         make("fault", 0, TAKE, 1, 1, NOISE);

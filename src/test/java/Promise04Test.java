@@ -120,6 +120,17 @@ public final class Promise04Test extends Told {
         due(0, "outcome", 0);
         due(1, "second", 3);
         due(4, "of", 0, 3);
+        sentence("of the STATION of the TRY: that of a FALLBACK, not that of its ORDER");
+        make("station", 5, 9, 1);
+        make("station", 5, 9, 1);
+        make("guard", FALLBACK, 1, 1, 0, ANY);
+        tower(0);
+        make("slow", 0, TAKE, 1, 9, 7);
+        make("slow", 1, TAKE, 1, 1, 3);
+        make("fault", 0, TAKE, 1, 1, LINE);
+        make("order", 0, 0, TAKE, 1, 0);
+        due(0, "second", 4);
+        due(1, "second", 1);
         sentence("SLOWNESS that is told while the TRY is UNDER WAY does not count");
         make("station", 5, 9, 2);
         make("tower");

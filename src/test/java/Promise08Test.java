@@ -123,6 +123,14 @@ public final class Promise08Test extends Told {
         refused(RANGE, "order", 0, 0, 3, 0, 0);
         refused(RANGE, "order", 0, 0, READ, 1, 0);
         refused(RANGE, "order", 0, 0, READ, 0, -1);
+        sentence("60 ORDERS, however many CALLS they have");
+        make("station", 50, 100, 1);
+        make("guard", LIMIT, 100, 100, 0, 0);
+        tower(0);
+        makeAll(59, "order", 0, 0, READ, 0, 0);
+        due(118, "count", 6);
+        due(59, "order", 0, 0, READ, 0, 0);
+        refused(FULL, "order", 0, 0, READ, 0, 0);
         sentence("ORDERS that ENDED or were cancelled count");
         works();
         makeAll(59, "order", 0, 0, READ, 0, 0);

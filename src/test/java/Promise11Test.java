@@ -225,6 +225,15 @@ public final class Promise11Test extends Told {
         make("second", 1);
         all("planned", 0, 1, 59, 1, 0, 1);
         due(60, "count", 5);
+        sentence("less than 60 ORDERS, however many CALLS they have");
+        make("station", 50, 100, 1);
+        make("guard", LIMIT, 100, 100, 0, 0);
+        tower(0);
+        makeAll(59, "order", 0, 0, READ, 0, 0);
+        due(118, "count", 6);
+        make("plan", 0, 0, READ, 0, 1, 0, MOST);
+        make("second", 2);
+        all("planned", 0, 1, 59, 1, 0, 1);
         sentence("two PLANS for the sixtieth: the first one has it");
         works();
         makeAll(59, "order", 0, 0, READ, 0, 0);

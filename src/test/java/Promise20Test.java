@@ -245,12 +245,15 @@ public final class Promise20Test extends Told {
         works(1, HEDGE, 2, 0, 0, 0);
         make("order", 0, 0, READ, 0, 0);
         due(1, "second", 1);
+        order(0, 1, 50, NONE, 0, 1);
         make("second", 9);
         due(2, "count", 6);
         sentence("HEDGE: the first fails ahead of the second one: ALIKE, no second");
         works(1, HEDGE, 2, 0, 0, 0);
         make("order", 0, 0, TAKE, 51, 0);
         due(1, "second", 1);
+        order(0, 2, NONE, 0, 0, 1);
+        calls(9, 0, 0, 0);
         make("second", 9);
         due(2, "count", 6);
         sentence("HEDGE: the first is GOOD: the second is TAKEN BACK");

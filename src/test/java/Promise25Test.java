@@ -138,6 +138,17 @@ public final class Promise25Test extends Told {
         due(3, "second", 1);
         due(2, "outcome", 5);
         kept(0, 50, 2);
+        sentence("TAKE 0 and GIVE 0 are no READ");
+        works(99);
+        make("order", 0, 0, TAKE, 0, 0);
+        make("order", 0, 0, GIVE, 0, 0);
+        make("second", 1);
+        kept(0, NONE, NONE);
+        read(0);
+        make("order", 0, 0, TAKE, 0, 0);
+        make("order", 0, 0, GIVE, 0, 0);
+        due(0, "outcome", 3);
+        due(0, "outcome", 4);
     }
 
     private static void oneForAStation() {

@@ -55,6 +55,20 @@ public final class Promise30Test extends Told {
         make("plan", 0, 0, READ, 0, 1, 0, MOST);
         make("stop", 0);
         due(1, "count", 13);
+        sentence("5 ORDERS are not CALLS: one that has six of them");
+        make("station", 50, 100, 1);
+        for (int sort = FUSE; sort <= LIMIT; sort++) {
+            make("guard", sort, 1, 1, 0, 0);
+        }
+        make("guard", DEADLINE, 9, 0, 0, 0);
+        make("guard", JOIN, 0, 0, 0, 0);
+        tower(0, 1, 2, 3, 4);
+        make("order", 0, 0, READ, 0, 0);
+        due(1, "count", 5);
+        due(6, "count", 6);
+        due(6, "count", 9);
+        due(1, "count", 10);
+        due(1, "count", 11);
         sentence("5 ORDERS: those that ENDED or were cancelled, too");
         make("station", 50, 100, 1);
         make("tower");
@@ -133,6 +147,21 @@ public final class Promise30Test extends Told {
         tower(0);
         make("order", 0, 0, TAKE, 51, 0);
         make("second", 5);
+        due(1, "count", 10);
+        sentence("9 CALLS, 10 TRIES UNDER WAY: when many have ENDED before");
+        make("station", 50, 100, 2);
+        make("guard", DEADLINE, 9, 0, 0, 0);
+        tower(0);
+        make("tower");
+        makeAll(5, "order", 1, 0, READ, 0, 0);
+        make("second", 1);
+        makeAll(2, "order", 0, 0, READ, 0, 0);
+        make("second", 1);
+        due(4, "count", 9);
+        due(2, "count", 10);
+        make("order", 0, 0, READ, 0, 0);
+        make("second", 1);
+        due(2, "count", 9);
         due(1, "count", 10);
         sentence("10 TRIES UNDER WAY: not one that was TAKEN BACK");
         make("station", 50, 100, 5);
