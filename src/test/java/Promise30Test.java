@@ -153,7 +153,7 @@ public final class Promise30Test extends Told {
         make("guard", DEADLINE, 9, 0, 0, 0);
         tower(0);
         make("tower");
-        makeAll(5, "order", 1, 0, READ, 0, 0);
+        makeAll(6, "order", 1, 0, READ, 0, 0);
         make("second", 1);
         makeAll(2, "order", 0, 0, READ, 0, 0);
         make("second", 1);
