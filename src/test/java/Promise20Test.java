@@ -134,6 +134,18 @@ public final class Promise20Test extends Told {
         all("call", 2, 0, 1, 0, NONE, 0, 3, NONE, 0, NONE, NONE, 0);
         make("second", 1);
         all("call", 0, 0, 0, NONE, 0, NONE, 0, 4, 1, 50, NONE, 0);
+        sentence("2 it PAUSES again, if the next one is refused in the second in which it BEGINS");
+        make("station", 50, 100, 9);
+        make("guard", RETRY, 3, 1, 0, CROWDED);
+        make("guard", BULKHEAD, 1, 0, 0, 0);
+        tower(0, 1);
+        makeAll(2, "order", 0, 0, READ, 0, 0);
+        due(2, "call", 3, 10);
+        make("second", 1);
+        due(6, "count", 6);
+        due(2, "call", 3, 10);
+        make("second", 1);
+        all("call", 3, 1, 0, NONE, 0, NONE, 0, 2, 2, NONE, 2, 0);
         sentence("UNDER WAY, else 0: one that paused and was TAKEN BACK");
         works(1, RETRY, 3, 2, 0, ANY);
         make("fault", 0, READ, 1, 1, LINE);

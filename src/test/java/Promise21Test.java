@@ -9,6 +9,7 @@ public final class Promise21Test extends Told {
         trialEndsAtOnce();
         trialTakenBack();
         othersEnd();
+        thenAlike();
         oneForAll();
         done();
     }
@@ -276,6 +277,30 @@ public final class Promise21Test extends Told {
         all("fuse", 0, 0, 0, 2);
         make("second", 6);
         all("fuse", 0, 0, 1, 2);
+    }
+
+    /** One ORDER has the FUSE within its JOIN and a TRANSLATOR between, another one, JOINED to it, around its JOIN. */
+    private static void joinedAround(int kind, int told) {
+        make("station", 50, 100, 1);
+        make("guard", FUSE, 3, 5, 0, BROKEN);
+        make("guard", TRANSLATOR, 0, told, 0, kind);
+        make("guard", JOIN, 0, 0, 0, 0);
+        make("fault", 0, READ, 1, 9, kind);
+        tower(2, 1, 0);
+        tower(0, 2);
+        make("order", 0, 0, READ, 0, 0);
+        make("order", 1, 0, READ, 0, 0);
+        due(2, "second", 1);
+        due(told, "failure", make("of", 1, 1), 0);
+    }
+
+    private static void thenAlike() {
+        sentence("then ALIKE: COUNT is 1 more ahead of what comes of that, by which it is 0");
+        joinedAround(BROKEN, WORD);
+        all("fuse", 0, 0, 0, 0);
+        sentence("then ALIKE: COUNT is 0 ahead of what comes of that, by which it is 1");
+        joinedAround(NOISE, BROKEN);
+        all("fuse", 0, 0, 1, 0);
     }
 
     private static void oneForAll() {
