@@ -7,6 +7,7 @@ public final class Promise09Test extends Told {
         howMany();
         whatIsLeft();
         thoseJoined();
+        whatComesOfIt();
         whatItsGuardsDo();
         ordersOfPlans();
         done();
@@ -229,6 +230,30 @@ public final class Promise09Test extends Told {
         all("call", 4, 1, 1, 2, NONE, 0, 1, NONE, 0, NONE, NONE, 0);
         due(1, "second", 5);
         order(1, 3, 50, NONE, 0, 6);
+    }
+
+    private static void whatComesOfIt() {
+        sentence("those TAKEN BACK by what came of it, in another ORDER: their GUARDS do it once, and they are not counted");
+        make("station", 50, 100, 9);
+        make("guard", HEDGE, 1, 0, 0, 0);
+        make("guard", FALLBACK, 0, 77, 0, GONE);
+        make("guard", BULKHEAD, 3, 0, 0, 0);
+        make("guard", JOIN, 0, 0, 0, 0);
+        tower(3);
+        tower(0, 1, 2, 3);
+        tower(2);
+        make("order", 0, 0, READ, 0, 0);
+        make("order", 1, 0, READ, 0, 0);
+        make("order", 2, 0, READ, 0, 0);
+        make("second", 1);
+        due(3, "bulkhead", 2, 0);
+        due(2, "cancel", 0);
+        order(1, 3, 77, NONE, 0, 1);
+        calls(7, 0, 3, 3, 1, 1, 2, 2, 0, 0, 3, 3, 3);
+        due(1, "bulkhead", 2, 0);
+        due(1, "count", 7);
+        due(1, "second", 9);
+        due(0, "bulkhead", 2, 0);
     }
 
     private static void whatItsGuardsDo() {

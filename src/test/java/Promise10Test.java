@@ -258,6 +258,35 @@ public final class Promise10Test extends Told {
         due(SHORT, "failure", 1, 0);
     }
 
+    /**
+     * In second 2 the one that waits at the BULKHEAD other is let in and SHORT; JOINED to it is the one AT WORK at the
+     * BULKHEAD full, where another one waits.
+     */
+    private static void roomByAnother(int full, int other) {
+        make("station", 50, 100, 2);
+        make("guard", BULKHEAD, full == 0 ? 1 : 2, 5, 0, 0);
+        make("guard", BULKHEAD, full == 1 ? 1 : 2, 5, 0, 0);
+        make("guard", JOIN, 0, 0, 0, 0);
+        make("guard", LIMIT, 1, 1, 0, 0);
+        tower(other);
+        tower(other, 3);
+        tower(2, other, 3);
+        tower(full, 2);
+        tower(full);
+        makeAll(2, "order", 0, 0, READ, 0, 0);
+        make("order", 1, 0, TAKE, 1, 0);
+        make("order", 2, 0, GIVE, 1, 0);
+        make("order", 3, 0, GIVE, 1, 0);
+        make("order", 4, 0, READ, 0, 0);
+        all("bulkhead", full, 1, 1, 0);
+        all("bulkhead", other, 2, 2, 0);
+        due(4, "second", 2);
+        order(3, 2, NONE, 0, 0, 2);
+        order(4, 2, NONE, 0, 0, 2);
+        due(SHORT, "failure", 0, 0);
+        all("bulkhead", other, 1, 0, 0);
+    }
+
     private static void bulkheads() {
         sentence("of each BULKHEAD, by number");
         make("station", 50, 100, 2);
@@ -269,6 +298,14 @@ public final class Promise10Test extends Told {
         makeAll(2, "order", 1, 0, READ, 0, 0);
         make("second", 2);
         calls(0, 6, 3, 1);
+        sentence("of each BULKHEAD, by number: what a later one makes room for GOES IN in the next SECOND");
+        roomByAnother(0, 1);
+        all("bulkhead", 0, 0, 1, 0);
+        due(0, "second", 1);
+        all("bulkhead", 0, 1, 0, 0);
+        sentence("of each BULKHEAD, by number: what an earlier one makes room for GOES IN in that SECOND");
+        roomByAnother(1, 0);
+        all("bulkhead", 1, 1, 0, 0);
         sentence("as long as less than a are AT WORK");
         make("station", 50, 100, 2);
         make("guard", BULKHEAD, 2, 5, 0, 0);

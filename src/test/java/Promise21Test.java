@@ -108,6 +108,7 @@ public final class Promise21Test extends Told {
         make("second", 2);
         make("order", 0, 0, READ, 0, 0);
         due(2, "outcome", 2);
+        due(3, "count", 7);
         all("fuse", 0, 1, 1, 4);
         sentence("OPEN: from its second UNTIL on: TRYING, with this CALL as the trial");
         works(1, 3, 1, 1);

@@ -102,6 +102,20 @@ public final class Promise25Test extends Told {
         read(0);
         make("order", 0, 0, READ, 0, 0);
         due(1, "outcome", 1);
+        sentence("t is the second in which it was KEPT: few CALLS and a late second");
+        works(5);
+        make("second", 50);
+        read(0);
+        make("second", 5);
+        make("order", 0, 0, READ, 0, 0);
+        due(1, "outcome", 1);
+        sentence("t is the second in which it was KEPT: many CALLS and an early second");
+        works(5);
+        makeAll(20, "order", 0, 1, TAKE, 1, 0);
+        read(0);
+        make("second", 6);
+        make("order", 0, 0, READ, 0, 0);
+        due(0, "outcome", 21);
         sentence("the old one stays till there is another one in its place");
         works(1);
         read(0);
@@ -187,6 +201,7 @@ public final class Promise25Test extends Told {
         read(0);
         due(2, "outcome", 1);
         kept(0, 50, 1);
+        due(1, "count", 7);
         sentence("one that was TAKEN BACK is not KEPT");
         works(9);
         make("order", 0, 0, READ, 0, 0);

@@ -173,11 +173,12 @@ public final class Promise28Test extends Told {
         due(5, "count", 8);
         sentence("another KEY moves");
         works();
-        make("order", 0, 0, TAKE, 10, 1);
-        make("order", 0, 0, TAKE, 10, 2);
+        make("order", 0, 0, TAKE, 10, 7);
+        make("order", 0, 0, TAKE, 10, 8);
+        make("order", 0, 0, TAKE, 10, 6);
         make("second", 1);
-        due(30, "level", 0);
-        due(2, "count", 8);
+        due(20, "level", 0);
+        due(3, "count", 8);
         sentence("long after, too");
         works();
         make("order", 0, 0, TAKE, 10, 1);

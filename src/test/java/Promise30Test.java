@@ -163,6 +163,20 @@ public final class Promise30Test extends Told {
         make("second", 1);
         due(2, "count", 9);
         due(1, "count", 10);
+        sentence("9 CALLS, 10 TRIES, 11 ORDERS UNDER WAY: when the first of several has ENDED");
+        make("station", 50, 100, 1);
+        make("station", 50, 100, 9);
+        make("tower");
+        make("order", 0, 0, READ, 0, 0);
+        makeAll(2, "order", 0, 1, READ, 0, 0);
+        for (int second = 1; second < 9; second++) {
+            make("second", 1);
+            due(2, "count", 9);
+            due(2, "count", 10);
+            due(2, "count", 11);
+        }
+        due(2, "second", 1);
+        due(0, "count", 9);
         sentence("10 TRIES UNDER WAY: not one that was TAKEN BACK");
         make("station", 50, 100, 5);
         make("tower");
